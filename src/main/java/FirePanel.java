@@ -184,7 +184,17 @@ public final class FirePanel {
             throws NoSuchElementException, IllegalStateException {
         mustExist(number, zone ? ZONES : PLACES);
         mustHaveEntered(ENGINEER);
-        return zone ? switchZone(number, off) : switchPlace(number, off);
+        boolean was = zone ? zones[number].isOff : ring.places[number].isOff;
+        if (was == off) {
+            return false;
+        }
+        if (zone) {
+            zones[number].isOff = off;
+        } else {
+            ring.places[number].isOff = off;
+        }
+        entries.add(LOG_SWITCHED, zone ? number : LOG_PLACE_FROM + number, polls);
+        return true;
     }
 
     public float level(int place) throws NoSuchElementException {
@@ -200,7 +210,7 @@ public final class FirePanel {
     public int place(int place) throws NoSuchElementException {
         mustExist(place, PLACES);
         Place asked = ring.places[place];
-        int reached = ring.reachedPlaces() >> place & 1;
+        int reached = (ring.reachedPlaces() >> place) & 1;
         return reached
                 + (asked.inAlarm ? 2 : 0)
                 + (asked.atFault ? 4 : 0)
@@ -278,7 +288,7 @@ public final class FirePanel {
             if (!asked.isSensor()) {
                 continue;
             }
-            if ((reached >> i & 1) == 0) {
+            if (((reached >> i) & 1) == 0) {
                 noteMiss(asked, i);
             } else {
                 noteAnswer(asked, i);
@@ -353,10 +363,10 @@ public final class FirePanel {
         int facts = faults() > 0 ? 1 << FACT_FAULT : 0;
         for (int i = 0; i < ZONES; i++) {
             if (zones[i].inFire) {
-                facts |= 1 << FACT_FIRE + i;
+                facts |= 1 << (FACT_FIRE + i);
             }
             if (hasWarning(i)) {
-                facts |= 1 << FACT_WARNING + i;
+                facts |= 1 << (FACT_WARNING + i);
             }
         }
         return facts;
@@ -393,24 +403,6 @@ public final class FirePanel {
         for (int i = 0; i < OUTPUTS; i++) {
             outputsOn[i] = false;
         }
-    }
-
-    private boolean switchZone(int number, boolean off) {
-        if (number < 0 || number >= ZONES || zones[number].isOff == off) {
-            return false;
-        }
-        zones[number].isOff = off;
-        entries.add(LOG_SWITCHED, number, polls);
-        return true;
-    }
-
-    private boolean switchPlace(int number, boolean off) {
-        if (number < 0 || number >= PLACES || ring.places[number].isOff == off) {
-            return false;
-        }
-        ring.places[number].isOff = off;
-        entries.add(LOG_SWITCHED, LOG_PLACE_FROM + number, polls);
-        return true;
     }
 
     /** A place of the ring with the device that is fitted there. */
@@ -517,10 +509,10 @@ public final class FirePanel {
         int reachedPlaces() {
             int passable = passableWires();
             int reached = 0;
-            for (int p = 0; p < PLACES && (passable >> p & 1) != 0; p++) {
+            for (int p = 0; p < PLACES && ((passable >> p) & 1) != 0; p++) {
                 reached |= 1 << p;
             }
-            for (int p = PLACES - 1; p >= 0 && (passable >> p + 1 & 1) != 0; p--) {
+            for (int p = PLACES - 1; p >= 0 && ((passable >> (p + 1)) & 1) != 0; p--) {
                 reached |= 1 << p;
             }
             return reached;
@@ -607,7 +599,7 @@ public final class FirePanel {
                 case STEP_OR:
                     return below | top;
                 default:
-                    return truths << 1 | facts >> step & 1;
+                    return (truths << 1) | ((facts >> step) & 1);
             }
         }
     }

@@ -6,6 +6,7 @@ public final class RuleTest {
         Due due = new Due();
         conditions(due);
         fromTheLeft(due);
+        eachFactAlone(due);
         fault(due);
         delays(due);
         heldStartsAgain(due);
@@ -70,6 +71,36 @@ public final class RuleTest {
         dueTruth(due, "z0&(z1|(z1|!f))", true);
         dueTruth(due, "z0|(z1&!(z0&f))&f", false);
         dueTruth(due, "z0&!z1&w1|f&z1", false);
+    }
+
+    /** One of nine facts is true at a time, and only the term that asks for it. */
+    private static void eachFactAlone(Due due) {
+        String[] terms = {"z0", "z1", "z2", "z3", "w0", "w1", "w2", "w3", "f"};
+        for (int fact = 0; fact < terms.length; fact++) {
+            for (int asked = 0; asked < terms.length; asked++) {
+                FirePanel panel = withFact(fact);
+                Panels.rule(panel, terms[asked] + ">3");
+                panel.poll();
+                due.is(terms[asked] + " with " + terms[fact], panel.held(0), asked == fact ? 1 : 0);
+            }
+        }
+    }
+
+    private static FirePanel withFact(int fact) {
+        FirePanel panel = Panels.atLevel2();
+        if (fact < 4) {
+            Panels.press(panel, 2, fact);
+            panel.poll();
+            panel.off(false, 2, true);
+        } else if (fact < 8) {
+            panel.fit(2, Panels.SMOKE, fact - 4, 80f);
+            panel.reading(2, 130f);
+        } else {
+            panel.fit(2, Panels.SMOKE, 0, 80f);
+            panel.wire(0, 2);
+            panel.poll();
+        }
+        return panel;
     }
 
     private static void fault(Due due) {

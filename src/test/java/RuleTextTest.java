@@ -11,6 +11,7 @@ public final class RuleTextTest {
         depth(due);
         everyTextOfThree(due);
         padIsEmptyThen(due);
+        oldTextsLeaveNothing(due);
         refuses(due);
         due.end();
     }
@@ -68,6 +69,7 @@ public final class RuleTextTest {
         dueRule(due, "z0>1:f", 6);
         dueRule(due, "z0>1:23", 7);
         dueRule(due, "z0>1:2:", 7);
+        dueRule(due, "z0>1::", 6);
         dueRule(due, "z0>1>2", 5);
         dueRule(due, ">1", 1);
         dueRule(due, "5>1", 1);
@@ -107,6 +109,9 @@ public final class RuleTextTest {
         dueRule(due, "((((!f))))>0", 4 + 1);
         dueRule(due, "((((f&!f", 6 + 1);
         dueRule(due, "!!!!", 4 + 1);
+        dueRule(due, "!!!!>0", 4 + 1);
+        dueRule(due, "(((())))>0", 4 + 1);
+        dueRule(due, "((((&f))))>0", 4 + 1);
         dueRule(due, "!!!f&!!!!f>0", 0);
         dueRule(due, "(((f)&!f)&!!f)&!f>0", 0);
         dueRule(due, "((!!f&!!!f))>0", 8 + 1);
@@ -142,6 +147,28 @@ public final class RuleTextTest {
         due.is("no delay", Panels.rule(panel, "z1>0"), 0);
         panel.poll();
         due.is("the delay of another text", panel.output(0), 3);
+    }
+
+    private static void oldTextsLeaveNothing(Due due) {
+        FirePanel panel = Panels.atLevel2();
+        Panels.press(panel, 0, 1);
+        String[] faulty = {"z", "z1", "z1>", "z1>0:", "(z1", "!"};
+        for (String text : faulty) {
+            due.is("a long text", Panels.rule(panel, "z1>0:9&z1&!z1|z1&z2"), 7);
+            due.is("then " + text, Panels.rule(panel, text), 1 + text.length());
+        }
+        for (int i = 0; i < 8; i++) {
+            Panels.rule(panel, "f&f&f&f&f&f&f&f&f&f&");
+        }
+        due.is("a rule behind them", Panels.rule(panel, "z2|z1>0"), 0);
+        panel.poll();
+        due.is("its output", panel.output(0), 3);
+        panel.forget();
+        Panels.rule(panel, "z1>0:4");
+        panel.forget();
+        Panels.rule(panel, "z1>0");
+        panel.poll();
+        due.is("the delay of a forgotten rule", panel.output(0), 3);
     }
 
     private static void refuses(Due due) {

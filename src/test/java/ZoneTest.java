@@ -152,6 +152,12 @@ public final class ZoneTest {
         due.is("its entry", Panels.entry(panel, 0), "7 25 1");
         due.is("a zone on", panel.off(true, 3, false), true);
         due.is("four entries", Panels.entries(panel), 4);
+        for (int zone = 0; zone < 4; zone++) {
+            due.is("zone " + zone + " off", panel.off(true, zone, true) + " " + panel.zone(zone), "true 4");
+        }
+        for (int place = 0; place < 16; place++) {
+            due.is("place " + place + " off", panel.off(false, place, true) + " " + panel.place(place), "true 9");
+        }
     }
 
     private static void refuses(Due due) {
