@@ -6,25 +6,39 @@ final class Due {
         Object make();
     }
 
+    private final String about;
     private int checked = 0;
     private int wrong = 0;
+
+    Due() {
+        this("");
+    }
+
+    /** What this tells stands in front of each line that is printed. */
+    Due(String about) {
+        this.about = about;
+    }
 
     void is(String what, Object got, Object want) {
         checked++;
         if (!Objects.equals(got, want)) {
             wrong++;
-            System.out.println(what + " answered " + got + ", due is " + want);
+            System.out.println(about + what + " answered " + got + ", due is " + want);
         }
     }
 
-    /** The call throws this very class, and the panel looks as before. */
-    void refused(String what, FirePanel panel, Class<? extends RuntimeException> want, Runnable call) {
-        String before = Panels.look(panel);
+    boolean holds() {
+        return wrong == 0 && checked != 0;
+    }
+
+    /** The call throws this very class, and the panel looks as it would without it. */
+    void refused(String what, Real panel, Class<? extends RuntimeException> want, Runnable call) {
+        String before = Panels.look(panel.twin());
         is(what, answer(() -> {
             call.run();
             return "nothing";
         }), "throws." + want.getSimpleName());
-        is("the panel behind " + what, Panels.look(panel), before);
+        is("the panel behind " + what, Panels.look(panel.twin()), before);
     }
 
     static String answer(Call call) {
@@ -37,7 +51,7 @@ final class Due {
 
     void end() {
         System.out.println(checked + " answers, " + wrong + " not as due");
-        if (wrong != 0 || checked == 0) {
+        if (!holds()) {
             System.exit(1);
         }
     }

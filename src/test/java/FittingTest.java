@@ -17,7 +17,7 @@ public final class FittingTest {
     }
 
     private static void kindsAndEdges(Due due) {
-        FirePanel panel = Panels.atLevel2();
+        Real panel = Panels.atLevel2();
         for (int kind = 0; kind <= 4; kind++) {
             panel.fit(15, kind, 3, 0.5f);
             due.is("place of kind " + kind, panel.place(15), 1 + 16 * kind);
@@ -28,7 +28,7 @@ public final class FittingTest {
     }
 
     private static void beginsAnew(Due due) {
-        FirePanel panel = Panels.atLevel2();
+        Real panel = Panels.atLevel2();
         panel.fit(4, Panels.HEAT, 0, 1f);
         panel.reading(4, 100f);
         Panels.poll(panel, 3);
@@ -60,7 +60,7 @@ public final class FittingTest {
     }
 
     private static void keepsReadingAndOff(Due due) {
-        FirePanel panel = Panels.atLevel2();
+        Real panel = Panels.atLevel2();
         panel.reading(2, 8f);
         panel.off(false, 2, true);
         panel.fit(2, Panels.BUTTON, 1, 1f);
@@ -71,7 +71,7 @@ public final class FittingTest {
     }
 
     private static void fitRefuses(Due due) {
-        FirePanel panel = Panels.atLevel2();
+        Real panel = Panels.atLevel2();
         panel.fit(1, Panels.SMOKE, 1, 10f);
         Class<NoSuchElementException> none = NoSuchElementException.class;
         Class<IllegalArgumentException> wrong = IllegalArgumentException.class;
@@ -97,7 +97,7 @@ public final class FittingTest {
 
     private static void needCounts(Due due) {
         for (int many = 1; many <= 4; many++) {
-            FirePanel panel = Panels.atLevel2();
+            Real panel = Panels.atLevel2();
             panel.need(2, many);
             for (int i = 0; i < 4; i++) {
                 panel.fit(i, Panels.HEAT, 2, 1f);
@@ -106,14 +106,14 @@ public final class FittingTest {
                 due.is("poll with " + (i + 1) + " of " + many, panel.poll(), i + 1 == many ? 1 : 0);
             }
         }
-        FirePanel panel = Panels.atLevel2();
+        Real panel = Panels.atLevel2();
         panel.need(3, 4);
         Panels.press(panel, 0, 3);
         due.is("a button does alone", panel.poll(), 1);
     }
 
     private static void needRefuses(Due due) {
-        FirePanel panel = Panels.atLevel2();
+        Real panel = Panels.atLevel2();
         for (int zone : new int[] {-1, 4, Integer.MIN_VALUE, Integer.MAX_VALUE}) {
             due.refused("need of zone " + zone, panel, NoSuchElementException.class, () -> panel.need(zone, 0));
         }

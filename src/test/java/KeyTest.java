@@ -12,7 +12,7 @@ public final class KeyTest {
     }
 
     private static void keys(Due due) {
-        FirePanel panel = new FirePanel();
+        Real panel = new Real();
         due.is("key(1357)", panel.key(1357) + " " + panel.count(2), "1 1");
         due.is("key(2468)", panel.key(2468) + " " + panel.count(2), "2 2");
         due.is("key(1357) again", panel.key(1357) + " " + panel.count(2), "1 1");
@@ -24,7 +24,7 @@ public final class KeyTest {
     }
 
     private static void silence(Due due) {
-        FirePanel panel = new FirePanel();
+        Real panel = new Real();
         panel.key(1357);
         panel.poll();
         due.is("silence", panel.silence() + " " + panel.count(3), "true 1");
@@ -42,7 +42,7 @@ public final class KeyTest {
     }
 
     private static void reset(Due due) {
-        FirePanel panel = Panels.atLevel2();
+        Real panel = Panels.atLevel2();
         due.is("reset of nothing", panel.reset(), 0);
         due.is("is logged", Panels.entry(panel, 0), "6 0 0");
         Panels.press(panel, 0, 0);
@@ -67,7 +67,7 @@ public final class KeyTest {
     }
 
     private static void resetBeginsCountsAnew(Due due) {
-        FirePanel panel = Panels.atLevel2();
+        Real panel = Panels.atLevel2();
         panel.fit(0, Panels.SMOKE, 0, 10f);
         panel.reading(0, 100f);
         Panels.poll(panel, 2);
@@ -80,7 +80,7 @@ public final class KeyTest {
     }
 
     private static void resetLeavesTheRest(Due due) {
-        FirePanel panel = Panels.atLevel2();
+        Real panel = Panels.atLevel2();
         panel.fit(0, Panels.SMOKE, 0, 10f);
         panel.fit(1, Panels.HEAT, 0, 10f);
         panel.reading(0, 8f);
@@ -102,7 +102,7 @@ public final class KeyTest {
     }
 
     private static void refuses(Due due) {
-        FirePanel panel = Panels.atLevel2();
+        Real panel = Panels.atLevel2();
         Panels.press(panel, 0, 0);
         Panels.rule(panel, "z0>0");
         panel.poll();

@@ -10,7 +10,7 @@ public final class LogTest {
     }
 
     private static void orderWithinAPoll(Due due) {
-        FirePanel panel = Panels.atLevel2();
+        Real panel = Panels.atLevel2();
         panel.fit(1, Panels.ISOLATOR, 0, 1f);
         panel.fit(3, Panels.ISOLATOR, 0, 1f);
         panel.fit(2, Panels.SMOKE, 0, 1f);
@@ -30,7 +30,7 @@ public final class LogTest {
     }
 
     private static void keepsSixteen(Due due) {
-        FirePanel panel = Panels.atLevel2();
+        Real panel = Panels.atLevel2();
         for (int i = 0; i < 16; i++) {
             due.is("entries", Panels.entries(panel), i);
             panel.off(false, i, true);
@@ -54,7 +54,7 @@ public final class LogTest {
     }
 
     private static void counts(Due due) {
-        FirePanel panel = Panels.atLevel2();
+        Real panel = Panels.atLevel2();
         Panels.poll(panel, 5);
         due.is("polls", panel.count(0), 5);
         Panels.rule(panel, "f>1");
@@ -87,7 +87,7 @@ public final class LogTest {
     }
 
     private static void refuses(Due due) {
-        FirePanel panel = Panels.atLevel2();
+        Real panel = Panels.atLevel2();
         Class<IllegalArgumentException> wrong = IllegalArgumentException.class;
         due.refused("log of an empty log", panel, wrong, () -> panel.log(0, 0));
         panel.reset();

@@ -2,8 +2,9 @@ import java.util.Random;
 
 /** All promises: mixed runs of up to 512 calls, each answer compared with the model's. */
 public final class ModelTest {
-    private static final int RUNS = 1500;
+    private static final int RUNS = 8000;
     private static final int CALLS = 512;
+    private static final int CALLS_OF_A_LOOK = 130;
     private static final String SIGNS = "zwf!()&|>:0123456789";
     private static final int[] ODD_NUMBERS = {-1, 4, 5, 6, 16, 17, Integer.MIN_VALUE, Integer.MAX_VALUE};
     private static final float[] ODD_FLOATS = {Float.NaN, Float.POSITIVE_INFINITY, Float.NEGATIVE_INFINITY,
@@ -15,7 +16,7 @@ public final class ModelTest {
 
     private final Random random;
     private final Due due;
-    private final Face real = new Face.Real(new FirePanel());
+    private final Face real = new Real();
     private final Face model = new Model();
     private String waiting = "";
 
@@ -33,20 +34,23 @@ public final class ModelTest {
         due.end();
     }
 
+    /** Most runs end early, to leave calls for a look; the others use all that a panel has. */
     private void run(int run) {
+        boolean looks = run % 4 != 0;
+        int end = looks ? 17 + random.nextInt(CALLS - CALLS_OF_A_LOOK - 17) : CALLS;
         same(run, 0, p -> p.key(2468));
         for (int place = 0; place < 16; place++) {
             int kind = random.nextInt(5);
             int zone = random.nextInt(4);
             float threshold = 0.5f + random.nextInt(40);
             int at = place;
-            same(run, 0, p -> nothing(() -> p.fit(at, kind, zone, threshold)));
+            same(run, 1 + place, p -> nothing(() -> p.fit(at, kind, zone, threshold)));
         }
-        for (int call = 17; call < CALLS; call++) {
+        for (int call = 17; call < end; call++) {
             same(run, call, next());
-            if (call % 16 == 0) {
-                due.is("run " + run + " at call " + call, Panels.look(real), Panels.look(model));
-            }
+        }
+        if (looks) {
+            due.is("run " + run + " at call " + end, Panels.look(real), Panels.look(model));
         }
     }
 
@@ -172,7 +176,7 @@ public final class ModelTest {
         for (int i = 0; i < 40000; i++) {
             String text = text(random);
             if (text.length() <= 20) {
-                FirePanel panel = Panels.atLevel2();
+                Real panel = Panels.atLevel2();
                 due.is("rule of " + text, Panels.rule(panel, text), 1 + Model.faultOf(text));
             }
         }

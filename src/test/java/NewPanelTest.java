@@ -2,7 +2,7 @@
 public final class NewPanelTest {
     public static void main(String[] args) {
         Due due = new Due();
-        FirePanel panel = new FirePanel();
+        Real panel = new Real();
         for (int i = 0; i < 16; i++) {
             due.is("place " + i, panel.place(i), 1);
             due.is("level " + i, panel.level(i), 0f);
@@ -25,7 +25,7 @@ public final class NewPanelTest {
 
     private static void zonesNeedOne(Due due) {
         for (int zone = 0; zone < 4; zone++) {
-            FirePanel panel = Panels.atLevel2();
+            Real panel = Panels.atLevel2();
             panel.fit(zone, Panels.HEAT, zone, 1f);
             panel.reading(zone, 200f);
             Panels.poll(panel, 2);
@@ -34,7 +34,7 @@ public final class NewPanelTest {
     }
 
     private static void readingsAreZero(Due due) {
-        FirePanel panel = Panels.atLevel2();
+        Real panel = Panels.atLevel2();
         for (int i = 0; i < 16; i++) {
             panel.fit(i, Panels.BUTTON, 0, 1f);
         }
@@ -42,13 +42,13 @@ public final class NewPanelTest {
     }
 
     private static void panelsAreApart(Due due) {
-        FirePanel used = Panels.atLevel2();
+        Real used = Panels.atLevel2();
         Panels.press(used, 3, 1);
         Panels.rule(used, "z1>2");
         used.wire(5, 2);
         used.poll();
-        due.is("another new panel", Panels.look(new FirePanel()), Panels.look(new FirePanel()));
-        due.is("zone of another", new FirePanel().zone(1), 0);
-        due.is("place of another", new FirePanel().place(3), 1);
+        due.is("another new panel", Panels.look(new Real()), Panels.look(new Real()));
+        due.is("zone of another", new Real().zone(1), 0);
+        due.is("place of another", new Real().place(3), 1);
     }
 }

@@ -9,40 +9,40 @@ final class Panels {
     private Panels() {
     }
 
-    static FirePanel atLevel2() {
-        FirePanel panel = new FirePanel();
+    static Real atLevel2() {
+        Real panel = new Real();
         panel.key(2468);
         return panel;
     }
 
     /** A button at this place, pressed: the zone is in fire with the next poll. */
-    static void press(FirePanel panel, int place, int zone) {
+    static void press(Real panel, int place, int zone) {
         panel.fit(place, BUTTON, zone, 1f);
         panel.reading(place, 1f);
     }
 
-    static void write(FirePanel panel, String text) {
+    static void write(Real panel, String text) {
         for (char c : text.toCharArray()) {
             panel.type(c);
         }
     }
 
-    static int rule(FirePanel panel, String text) {
+    static int rule(Real panel, String text) {
         write(panel, text);
         return panel.rule();
     }
 
-    static void poll(FirePanel panel, int times) {
+    static void poll(Real panel, int times) {
         for (int i = 0; i < times; i++) {
             panel.poll();
         }
     }
 
-    static String entry(FirePanel panel, int i) {
+    static String entry(Real panel, int i) {
         return panel.log(i, 0) + " " + panel.log(i, 1) + " " + panel.log(i, 2);
     }
 
-    static int entries(FirePanel panel) {
+    static int entries(Real panel) {
         int entries = 0;
         while (!Due.answer(logCall(panel, entries)).startsWith("throws")) {
             entries++;
@@ -50,12 +50,8 @@ final class Panels {
         return entries;
     }
 
-    private static Due.Call logCall(FirePanel panel, int i) {
+    private static Due.Call logCall(Real panel, int i) {
         return () -> panel.log(i, 0);
-    }
-
-    static String look(FirePanel panel) {
-        return look(new Face.Real(panel));
     }
 
     /** Everything that the questions of the face tell, as one text. */

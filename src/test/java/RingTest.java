@@ -17,7 +17,7 @@ public final class RingTest {
     }
 
     /** A character a place: R reached, - not. */
-    private static String reached(FirePanel panel) {
+    private static String reached(Real panel) {
         StringBuilder text = new StringBuilder();
         for (int i = 0; i < 16; i++) {
             text.append((panel.place(i) & 1) == 1 ? 'R' : '-');
@@ -27,14 +27,14 @@ public final class RingTest {
 
     private static void oneBreakCutsNothing(Due due) {
         for (int k = 0; k <= 16; k++) {
-            FirePanel panel = new FirePanel();
+            Real panel = new Real();
             panel.wire(k, 1);
             due.is("break of wire " + k, reached(panel), "RRRRRRRRRRRRRRRR");
         }
     }
 
     private static void twoBreaks(Due due) {
-        FirePanel panel = new FirePanel();
+        Real panel = new Real();
         panel.wire(5, 1);
         panel.wire(10, 1);
         due.is("breaks of 5 and 10", reached(panel), "RRRRR-----RRRRRR");
@@ -51,14 +51,14 @@ public final class RingTest {
 
     private static void shortWithoutIsolators(Due due) {
         for (int k = 0; k <= 16; k++) {
-            FirePanel panel = new FirePanel();
+            Real panel = new Real();
             panel.wire(k, 2);
             due.is("short of wire " + k, reached(panel), "----------------");
         }
     }
 
-    private static FirePanel withIsolators(int... places) {
-        FirePanel panel = Panels.atLevel2();
+    private static Real withIsolators(int... places) {
+        Real panel = Panels.atLevel2();
         for (int place : places) {
             panel.fit(place, Panels.ISOLATOR, 0, 1f);
         }
@@ -67,11 +67,11 @@ public final class RingTest {
 
     private static void shortBetweenIsolators(Due due) {
         for (int k = 7; k <= 10; k++) {
-            FirePanel panel = withIsolators(6, 10);
+            Real panel = withIsolators(6, 10);
             panel.wire(k, 2);
             due.is("short of wire " + k, reached(panel), "RRRRRRR---RRRRRR");
         }
-        FirePanel panel = withIsolators(6, 10);
+        Real panel = withIsolators(6, 10);
         panel.wire(6, 2);
         due.is("short of wire 6", reached(panel), "------RRRRRRRRRR");
         panel.wire(6, 0);
@@ -85,7 +85,7 @@ public final class RingTest {
     }
 
     private static void shortAtTheEnds(Due due) {
-        FirePanel panel = withIsolators(0, 15);
+        Real panel = withIsolators(0, 15);
         panel.wire(0, 2);
         due.is("short of wire 0", reached(panel), "RRRRRRRRRRRRRRRR");
         panel.wire(16, 2);
@@ -99,7 +99,7 @@ public final class RingTest {
     }
 
     private static void breakInAndBesideDeadStretch(Due due) {
-        FirePanel panel = withIsolators(4, 8);
+        Real panel = withIsolators(4, 8);
         panel.wire(6, 2);
         panel.wire(7, 1);
         due.is("a break in a dead stretch", reached(panel), "RRRRR---RRRRRRRR");
@@ -112,7 +112,7 @@ public final class RingTest {
     }
 
     private static void isolatorFittedAndTakenAway(Due due) {
-        FirePanel panel = withIsolators(8);
+        Real panel = withIsolators(8);
         panel.wire(12, 2);
         due.is("one isolator", reached(panel), "RRRRRRRRR-------");
         panel.off(false, 8, true);
@@ -122,7 +122,7 @@ public final class RingTest {
     }
 
     private static void placeTellsAll(Due due) {
-        FirePanel panel = Panels.atLevel2();
+        Real panel = Panels.atLevel2();
         Panels.press(panel, 9, 1);
         due.is("a button", panel.place(9), 49);
         panel.poll();
@@ -137,7 +137,7 @@ public final class RingTest {
     }
 
     private static void refuses(Due due) {
-        FirePanel panel = new FirePanel();
+        Real panel = new Real();
         panel.wire(3, 1);
         Class<NoSuchElementException> none = NoSuchElementException.class;
         for (int wire : new int[] {-1, 17, Integer.MIN_VALUE, Integer.MAX_VALUE}) {

@@ -20,8 +20,8 @@ public final class RuleTest {
     }
 
     /** Zone 0 is in fire, zone 1 has only a warning, zones 2 and 3 have nothing. */
-    private static FirePanel fireAndWarning() {
-        FirePanel panel = Panels.atLevel2();
+    private static Real fireAndWarning() {
+        Real panel = Panels.atLevel2();
         Panels.press(panel, 0, 0);
         panel.fit(1, Panels.SMOKE, 1, 80f);
         panel.reading(1, 130f);
@@ -29,7 +29,7 @@ public final class RuleTest {
     }
 
     private static void dueTruth(Due due, String condition, boolean want) {
-        FirePanel panel = fireAndWarning();
+        Real panel = fireAndWarning();
         due.is("rule of " + condition, Panels.rule(panel, condition + ">4"), 0);
         panel.poll();
         due.is(condition, panel.held(0), want ? 1 : 0);
@@ -78,7 +78,7 @@ public final class RuleTest {
         String[] terms = {"z0", "z1", "z2", "z3", "w0", "w1", "w2", "w3", "f"};
         for (int fact = 0; fact < terms.length; fact++) {
             for (int asked = 0; asked < terms.length; asked++) {
-                FirePanel panel = withFact(fact);
+                Real panel = withFact(fact);
                 Panels.rule(panel, terms[asked] + ">3");
                 panel.poll();
                 due.is(terms[asked] + " with " + terms[fact], panel.held(0), asked == fact ? 1 : 0);
@@ -86,8 +86,8 @@ public final class RuleTest {
         }
     }
 
-    private static FirePanel withFact(int fact) {
-        FirePanel panel = Panels.atLevel2();
+    private static Real withFact(int fact) {
+        Real panel = Panels.atLevel2();
         if (fact < 4) {
             Panels.press(panel, 2, fact);
             panel.poll();
@@ -104,7 +104,7 @@ public final class RuleTest {
     }
 
     private static void fault(Due due) {
-        FirePanel panel = Panels.atLevel2();
+        Real panel = Panels.atLevel2();
         panel.fit(5, Panels.SMOKE, 0, 10f);
         panel.off(false, 5, true);
         Panels.rule(panel, "f>5");
@@ -121,7 +121,7 @@ public final class RuleTest {
 
     private static void delays(Due due) {
         for (int delay = 0; delay <= 9; delay++) {
-            FirePanel panel = fireAndWarning();
+            Real panel = fireAndWarning();
             Panels.rule(panel, "z0>3:" + delay);
             for (int i = 1; i <= 12; i++) {
                 panel.poll();
@@ -132,7 +132,7 @@ public final class RuleTest {
     }
 
     private static void heldStartsAgain(Due due) {
-        FirePanel panel = Panels.atLevel2();
+        Real panel = Panels.atLevel2();
         panel.fit(0, Panels.SMOKE, 2, 10f);
         Panels.rule(panel, "w2>3:1");
         panel.reading(0, 20f);
@@ -150,7 +150,7 @@ public final class RuleTest {
     }
 
     private static void severalRulesForOne(Due due) {
-        FirePanel panel = fireAndWarning();
+        Real panel = fireAndWarning();
         Panels.rule(panel, "z0>3:2");
         Panels.rule(panel, "z3>3");
         Panels.rule(panel, "z0>3:1");
@@ -164,7 +164,7 @@ public final class RuleTest {
     }
 
     private static void logsWhatComesOn(Due due) {
-        FirePanel panel = fireAndWarning();
+        Real panel = fireAndWarning();
         for (int output = 5; output >= 0; output--) {
             Panels.rule(panel, "z0>" + output);
         }
@@ -178,7 +178,7 @@ public final class RuleTest {
     }
 
     private static void silenceMutesSounders(Due due) {
-        FirePanel panel = fireAndWarning();
+        Real panel = fireAndWarning();
         for (int output = 0; output < 6; output++) {
             Panels.rule(panel, "z0>" + output);
         }
@@ -192,13 +192,13 @@ public final class RuleTest {
         Panels.press(panel, 9, 3);
         panel.poll();
         due.is("a new fire ends it", panel.output(0), 3);
-        FirePanel quiet = Panels.atLevel2();
+        Real quiet = Panels.atLevel2();
         quiet.silence();
         due.is("an output that is not on", quiet.output(0) + quiet.output(5), 0);
     }
 
     private static void newRuleWaitsForAPoll(Due due) {
-        FirePanel panel = fireAndWarning();
+        Real panel = fireAndWarning();
         panel.poll();
         Panels.rule(panel, "z0>3");
         due.is("before a poll", panel.output(3) + " " + panel.held(0), "0 0");
@@ -211,7 +211,7 @@ public final class RuleTest {
     }
 
     private static void forgets(Due due) {
-        FirePanel panel = fireAndWarning();
+        Real panel = fireAndWarning();
         due.is("forget of none", panel.forget(), 0);
         Panels.rule(panel, "z0>3");
         Panels.rule(panel, "z0>0");
@@ -234,7 +234,7 @@ public final class RuleTest {
     }
 
     private static void refuses(Due due) {
-        FirePanel panel = fireAndWarning();
+        Real panel = fireAndWarning();
         Panels.rule(panel, "z0>3");
         Panels.rule(panel, "z0>4");
         panel.poll();

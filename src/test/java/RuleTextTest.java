@@ -18,7 +18,7 @@ public final class RuleTextTest {
 
     private static void typeTakesSigns(Due due) {
         for (int c = 0; c <= Character.MAX_VALUE; c++) {
-            FirePanel panel = new FirePanel();
+            Real panel = new Real();
             boolean taken = panel.type((char) c);
             boolean want = SIGNS.indexOf(c) >= 0;
             if (taken != want || panel.count(4) != (want ? 1 : 0)) {
@@ -29,7 +29,7 @@ public final class RuleTextTest {
     }
 
     private static void typeStopsAtTwenty(Due due) {
-        FirePanel panel = new FirePanel();
+        Real panel = new Real();
         for (int i = 0; i < 20; i++) {
             due.is("type " + i, panel.type('f'), true);
         }
@@ -39,7 +39,7 @@ public final class RuleTextTest {
     }
 
     private static void dueRule(Due due, String text, int want) {
-        FirePanel panel = Panels.atLevel2();
+        Real panel = Panels.atLevel2();
         due.is("rule of " + text, Panels.rule(panel, text), want);
         due.is("rules behind " + text, panel.count(1), want == 0 ? 1 : 0);
         due.is("pad behind " + text, panel.count(4), 0);
@@ -124,7 +124,7 @@ public final class RuleTextTest {
             for (char b : SIGNS.toCharArray()) {
                 for (char c : SIGNS.toCharArray()) {
                     String text = "" + a + b + c;
-                    FirePanel panel = Panels.atLevel2();
+                    Real panel = Panels.atLevel2();
                     boolean is = text.matches("f>[0-5]");
                     if ((Panels.rule(panel, text) == 0) != is) {
                         due.is("whether " + text + " is a rule", !is, is);
@@ -135,7 +135,7 @@ public final class RuleTextTest {
     }
 
     private static void padIsEmptyThen(Due due) {
-        FirePanel panel = Panels.atLevel2();
+        Real panel = Panels.atLevel2();
         due.is("a text with a fault", Panels.rule(panel, "f&z0&!(z1|w9)>3"), 12);
         due.is("the pad", panel.count(4), 0);
         due.is("a rule behind it", Panels.rule(panel, "z1>1"), 0);
@@ -150,7 +150,7 @@ public final class RuleTextTest {
     }
 
     private static void oldTextsLeaveNothing(Due due) {
-        FirePanel panel = Panels.atLevel2();
+        Real panel = Panels.atLevel2();
         Panels.press(panel, 0, 1);
         String[] faulty = {"z", "z1", "z1>", "z1>0:", "(z1", "!"};
         for (String text : faulty) {
@@ -172,7 +172,7 @@ public final class RuleTextTest {
     }
 
     private static void refuses(Due due) {
-        FirePanel panel = new FirePanel();
+        Real panel = new Real();
         Panels.write(panel, "f>1");
         due.refused("rule at level 0", panel, IllegalStateException.class, panel::rule);
         panel.key(1357);

@@ -19,24 +19,24 @@ public final class SensorTest {
         due.end();
     }
 
-    private static FirePanel with(int kind, float threshold) {
-        FirePanel panel = Panels.atLevel2();
+    private static Real with(int kind, float threshold) {
+        Real panel = Panels.atLevel2();
         panel.fit(7, kind, 2, threshold);
         return panel;
     }
 
-    private static void read(FirePanel panel, float v) {
+    private static void read(Real panel, float v) {
         panel.reading(7, v);
         panel.poll();
     }
 
-    private static void dueState(Due due, String what, FirePanel panel, float level, float base) {
+    private static void dueState(Due due, String what, Real panel, float level, float base) {
         due.is("level " + what, panel.level(7), level);
         due.is("base " + what, panel.base(7), base);
     }
 
     private static void smokeIsSmoothed(Due due) {
-        FirePanel panel = with(Panels.SMOKE, 10f);
+        Real panel = with(Panels.SMOKE, 10f);
         panel.reading(7, 12f);
         dueState(due, "before a poll", panel, 0f, 0f);
         panel.poll();
@@ -50,7 +50,7 @@ public final class SensorTest {
     }
 
     private static void smokeFollowsItsDirt(Due due) {
-        FirePanel panel = with(Panels.SMOKE, 1f);
+        Real panel = with(Panels.SMOKE, 1f);
         read(panel, 16f);
         dueState(due, "over the threshold", panel, 8f, 0f);
         read(panel, -8f);
@@ -60,7 +60,7 @@ public final class SensorTest {
     }
 
     private static void smokeAtItsThreshold(Due due) {
-        FirePanel panel = with(Panels.SMOKE, 6f);
+        Real panel = with(Panels.SMOKE, 6f);
         read(panel, 12f);
         dueState(due, "at the threshold", panel, 6f, 0f);
         panel = with(Panels.SMOKE, Math.nextUp(6f));
@@ -69,7 +69,7 @@ public final class SensorTest {
     }
 
     private static void overStartsAgain(Due due) {
-        FirePanel panel = with(Panels.SMOKE, 10f);
+        Real panel = with(Panels.SMOKE, 10f);
         read(panel, 100f);
         panel.poll();
         due.is("over twice", panel.place(7), 17);
@@ -86,7 +86,7 @@ public final class SensorTest {
     }
 
     private static void heat(Due due) {
-        FirePanel panel = with(Panels.HEAT, 50f);
+        Real panel = with(Panels.HEAT, 50f);
         read(panel, 20f);
         dueState(due, "of poll 1", panel, 85f, 20f);
         read(panel, 31f);
@@ -103,7 +103,7 @@ public final class SensorTest {
     }
 
     private static void heatFalls(Due due) {
-        FirePanel panel = with(Panels.HEAT, 50f);
+        Real panel = with(Panels.HEAT, 50f);
         read(panel, 100f);
         read(panel, 190f);
         read(panel, 190f);
@@ -117,7 +117,7 @@ public final class SensorTest {
     }
 
     private static void button(Due due) {
-        FirePanel panel = with(Panels.BUTTON, 100f);
+        Real panel = with(Panels.BUTTON, 100f);
         panel.reading(7, 0f);
         due.is("poll at 0", panel.poll(), 0);
         read(panel, -5f);
@@ -132,7 +132,7 @@ public final class SensorTest {
     }
 
     private static void faults(Due due) {
-        FirePanel panel = with(Panels.SMOKE, 10f);
+        Real panel = with(Panels.SMOKE, 10f);
         panel.wire(7, 1);
         panel.wire(8, 1);
         panel.reading(7, 100f);
@@ -156,7 +156,7 @@ public final class SensorTest {
     }
 
     private static void missedInARow(Due due) {
-        FirePanel panel = with(Panels.HEAT, 10f);
+        Real panel = with(Panels.HEAT, 10f);
         for (int i = 0; i < 3; i++) {
             panel.wire(0, 2);
             panel.poll();
@@ -172,7 +172,7 @@ public final class SensorTest {
     }
 
     private static void offIsNotSensedButAsked(Due due) {
-        FirePanel panel = with(Panels.BUTTON, 10f);
+        Real panel = with(Panels.BUTTON, 10f);
         panel.off(false, 7, true);
         panel.reading(7, 5f);
         due.is("poll while off", panel.poll(), 0);
@@ -188,7 +188,7 @@ public final class SensorTest {
 
     private static void isolatorAndNothingAreNotAsked(Due due) {
         for (int kind : new int[] {Panels.NOTHING, Panels.ISOLATOR}) {
-            FirePanel panel = with(kind, 0.5f);
+            Real panel = with(kind, 0.5f);
             panel.reading(7, 200f);
             Panels.poll(panel, 4);
             dueState(due, "of kind " + kind, panel, 0f, 0f);
@@ -201,7 +201,7 @@ public final class SensorTest {
     }
 
     private static void refuses(Due due) {
-        FirePanel panel = with(Panels.BUTTON, 10f);
+        Real panel = with(Panels.BUTTON, 10f);
         Class<NoSuchElementException> none = NoSuchElementException.class;
         for (int place : new int[] {-1, 16, Integer.MIN_VALUE, Integer.MAX_VALUE}) {
             due.refused("reading at " + place, panel, none, () -> panel.reading(place, 999f));

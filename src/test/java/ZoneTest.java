@@ -16,13 +16,13 @@ public final class ZoneTest {
         due.end();
     }
 
-    private static void heat(FirePanel panel, int place, int zone) {
+    private static void heat(Real panel, int place, int zone) {
         panel.fit(place, Panels.HEAT, zone, 1f);
         panel.reading(place, 100f);
     }
 
     private static void firesByNeed(Due due) {
-        FirePanel panel = Panels.atLevel2();
+        Real panel = Panels.atLevel2();
         panel.need(1, 2);
         heat(panel, 0, 1);
         heat(panel, 1, 2);
@@ -38,7 +38,7 @@ public final class ZoneTest {
     }
 
     private static void buttonAlone(Due due) {
-        FirePanel panel = Panels.atLevel2();
+        Real panel = Panels.atLevel2();
         panel.need(0, 3);
         Panels.press(panel, 8, 0);
         panel.off(false, 8, true);
@@ -49,7 +49,7 @@ public final class ZoneTest {
     }
 
     private static void severalZonesAtOnce(Due due) {
-        FirePanel panel = Panels.atLevel2();
+        Real panel = Panels.atLevel2();
         for (int zone = 0; zone < 4; zone++) {
             Panels.press(panel, 10 - zone, zone);
         }
@@ -60,7 +60,7 @@ public final class ZoneTest {
     }
 
     private static void warnings(Due due) {
-        FirePanel panel = Panels.atLevel2();
+        Real panel = Panels.atLevel2();
         panel.fit(3, Panels.SMOKE, 2, 16f);
         panel.reading(3, 24f);
         panel.poll();
@@ -89,7 +89,7 @@ public final class ZoneTest {
     }
 
     private static void zoneOff(Due due) {
-        FirePanel panel = Panels.atLevel2();
+        Real panel = Panels.atLevel2();
         panel.off(true, 1, true);
         Panels.press(panel, 0, 1);
         due.is("poll while off", panel.poll(), 0);
@@ -102,7 +102,7 @@ public final class ZoneTest {
     }
 
     private static void placeOff(Due due) {
-        FirePanel panel = Panels.atLevel2();
+        Real panel = Panels.atLevel2();
         panel.need(0, 2);
         heat(panel, 0, 0);
         heat(panel, 1, 0);
@@ -125,7 +125,7 @@ public final class ZoneTest {
     }
 
     private static void fireStays(Due due) {
-        FirePanel panel = Panels.atLevel2();
+        Real panel = Panels.atLevel2();
         Panels.press(panel, 0, 3);
         panel.poll();
         panel.fit(0, Panels.NOTHING, 0, 1f);
@@ -137,7 +137,7 @@ public final class ZoneTest {
     }
 
     private static void offAnswers(Due due) {
-        FirePanel panel = Panels.atLevel2();
+        Real panel = Panels.atLevel2();
         due.is("a place that is on", panel.off(false, 15, false), false);
         due.is("a zone that is on", panel.off(true, 3, false), false);
         due.is("no entries", Panels.entries(panel), 0);
@@ -161,7 +161,7 @@ public final class ZoneTest {
     }
 
     private static void refuses(Due due) {
-        FirePanel panel = Panels.atLevel2();
+        Real panel = Panels.atLevel2();
         Class<NoSuchElementException> none = NoSuchElementException.class;
         for (int zone : new int[] {-1, 4, Integer.MIN_VALUE, Integer.MAX_VALUE}) {
             due.refused("off of zone " + zone, panel, none, () -> panel.off(true, zone, true));
