@@ -51,7 +51,9 @@ public final class KeyEdgeTest {
                 .holds("It is logged.", "each time, with nothing to reset too", KeyEdgeTest::resetIsLogged)
                 .holds("LEVEL 1", "level 0", KeyEdgeTest::resetBelowLevelOne)
                 .holds("Nothing is promised beyond the answers and state changes described above", "the rest stays",
-                        KeyEdgeTest::theRestStays);
+                        KeyEdgeTest::theRestStays)
+                .holds("Nothing is promised beyond the answers and state changes described above",
+                        "missed and needs stay", KeyEdgeTest::missedAndNeedsStay);
     }
 
     private static void levelAtFirst(Due due) {
@@ -364,5 +366,18 @@ public final class KeyEdgeTest {
         due.is("place(9) and zone(3), off", panel.place(9) + " " + panel.zone(3), "9 4");
         due.is("polls, rules, level, pad, faults", panel.count(0) + " " + panel.count(1) + " " + panel.count(2) + " "
                 + panel.count(4) + " " + panel.count(5), "4 1 2 2 1");
+    }
+
+    private static void missedAndNeedsStay(Due due) {
+        Real panel = twiceOver();
+        panel.need(0, 2);
+        panel.wire(15, 1);
+        panel.wire(16, 1);
+        panel.poll();
+        panel.reset();
+        panel.poll();
+        due.is("place(15), missed for the second time", panel.place(15), 32 + 4);
+        Panels.poll(panel, 2);
+        due.is("zone(0), one of two in alarm", panel.zone(0), 2);
     }
 }

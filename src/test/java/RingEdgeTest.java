@@ -28,6 +28,8 @@ public final class RingEdgeTest {
                         RingEdgeTest::sixteenIsolators)
                 .holds("Isolators part the ring into STRETCHES of wires", "no other device does",
                         RingEdgeTest::othersDoNotPart)
+                .holds("Isolators part the ring into STRETCHES of wires", "off ones too",
+                        RingEdgeTest::offIsolators)
                 .holds("Isolators part the ring into STRETCHES of wires", "the ends are not one stretch",
                         RingEdgeTest::endsAreApart)
                 .holds("(without any, all wires are one)", "a short of each wire", RingEdgeTest::withoutIsolators)
@@ -164,6 +166,13 @@ public final class RingEdgeTest {
             }
             due.is("short 8 among kind " + kind, seen(wires(panel, SHORT, 8)), NO_ONE);
         }
+    }
+
+    private static void offIsolators(Due due) {
+        Real panel = isolators(4, 9);
+        panel.off(false, 4, true);
+        panel.off(false, 9, true);
+        due.is("short 7", seen(wires(panel, SHORT, 7)), "RRRRR----RRRRRRR");
     }
 
     private static void endsAreApart(Due due) {

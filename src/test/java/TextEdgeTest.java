@@ -257,8 +257,8 @@ public final class TextEdgeTest {
     private static void olderRule(Due due) {
         Real panel = Panels.atLevel2();
         for (int i = 0; i < 4; i++) {
-            due.is("rule() with a fault", Panels.rule(panel, "!f|f|f|f|f|f|f|f>3:"), 20);
-            due.is("rule() with a delay", Panels.rule(panel, "!f|f|f|f|f|f|f|f>3:9"), 0);
+            due.is("rule() with a fault", Panels.rule(panel, "f|f|f|f|f|f|f|f|f>3:"), 21);
+            due.is("rule() with a delay", Panels.rule(panel, "f|f|f|f|f|f|f|f>3:9"), 0);
             panel.forget();
         }
         due.is("rule()", Panels.rule(panel, "f|!f>4"), 0);

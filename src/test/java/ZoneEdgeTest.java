@@ -188,17 +188,21 @@ public final class ZoneEdgeTest {
         due.refused("need(-1, 5) at level 2", panel, Sentences.NO_SUCH, () -> panel.need(-1, 5));
     }
 
-    private static void refusedNeed(Due due) {
-        Real panel = heatsIn(0, 2, 2);
+    private static void refuseNeeds(Due due, Real panel) {
         due.refused("need(0, 0)", panel, Sentences.ARGUMENT, () -> panel.need(0, 0));
         due.refused("need(0, 5)", panel, Sentences.ARGUMENT, () -> panel.need(0, 5));
+        due.refused("need(4, 1)", panel, Sentences.NO_SUCH, () -> panel.need(4, 1));
         panel.key(1357);
         due.refused("need(0, 4) at level 1", panel, Sentences.STATE, () -> panel.need(0, 4));
-        due.is("third poll() with two of two", thirdPoll(panel), 1);
-        Real other = heatsIn(0, 1, 2);
-        other.key(0);
-        due.refused("need(0, 1) at level 0", other, Sentences.STATE, () -> other.need(0, 1));
-        due.is("third poll() with one of two", thirdPoll(other), 0);
+        due.refused("need(0, 1) at level 1", panel, Sentences.STATE, () -> panel.need(0, 1));
+    }
+
+    private static void refusedNeed(Due due) {
+        for (int many = 1; many <= 2; many++) {
+            Real panel = heatsIn(0, many, 2);
+            refuseNeeds(due, panel);
+            due.is("third poll() with " + many + " of two", thirdPoll(panel), many == 2 ? 1 : 0);
+        }
     }
 
     private static void oneTooFew(Due due) {
