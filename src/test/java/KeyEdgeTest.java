@@ -1,3 +1,5 @@
+import java.util.function.Consumer;
+
 /** Terms of the levels, promises 10, 11 and 12: each sentence with its edges. */
 public final class KeyEdgeTest {
     public static void main(String[] args) {
@@ -121,7 +123,7 @@ public final class KeyEdgeTest {
         due.is("entries", Panels.entries(panel), 0);
     }
 
-    private static void dueLevelOf(Due due, String name, int needed, java.util.function.Consumer<Real> call) {
+    private static void dueLevelOf(Due due, String name, int needed, Consumer<Real> call) {
         for (int level = 0; level <= 2; level++) {
             Real panel = at(level);
             String got = Due.answer(() -> {

@@ -1,10 +1,12 @@
+import java.util.NoSuchElementException;
+
 /** Sentences of the document, each with a test of its own that is told with its promise. */
 final class Sentences {
     interface Test {
         void run(Due due);
     }
 
-    static final Class<java.util.NoSuchElementException> NO_SUCH = java.util.NoSuchElementException.class;
+    static final Class<NoSuchElementException> NO_SUCH = NoSuchElementException.class;
     static final Class<IllegalArgumentException> ARGUMENT = IllegalArgumentException.class;
     static final Class<IllegalStateException> STATE = IllegalStateException.class;
 
